@@ -1,0 +1,103 @@
+import java.util.NoSuchElementException;
+
+/** Counts the answers that differ from those that are due. */
+final class Check {
+    static final Class<? extends RuntimeException> INDEX = IndexOutOfBoundsException.class;
+    static final Class<? extends RuntimeException> ARGUMENT = IllegalArgumentException.class;
+    static final Class<? extends RuntimeException> STATE = IllegalStateException.class;
+    static final Class<? extends RuntimeException> ELEMENT = NoSuchElementException.class;
+    static final Class<? extends RuntimeException> ARITHMETIC = ArithmeticException.class;
+
+    interface Call {
+        Object make();
+    }
+
+    private static int wrong = 0;
+    private static int made = 0;
+
+    private Check() {
+    }
+
+    static void is(String what, Object got, Object want) {
+        made++;
+        if (!got.equals(want)) {
+            wrong++;
+            System.out.println(what + ": answered " + got + ", due is " + want);
+        }
+    }
+
+    /** The exception must be of exactly this class, so that one that a subclass tells of is seen. */
+    static void fails(String what, Class<? extends RuntimeException> want, Call call) {
+        made++;
+        try {
+            Object got = call.make();
+            wrong++;
+            System.out.println(what + ": answered " + got + ", due is " + want.getSimpleName());
+        } catch (RuntimeException e) {
+            if (e.getClass() != want) {
+                wrong++;
+                System.out.println(what + ": threw " + e + ", due is " + want.getSimpleName());
+            }
+        }
+    }
+
+    static void end(String test) {
+        System.out.println(test + ": " + made + " answers, " + wrong + " wrong");
+        if (wrong > 0) {
+            System.exit(1);
+        }
+    }
+
+    // ---- engines as most tests want them
+
+    static void type(PolicyEngine x, String text) {
+        for (int index = 0; index < text.length(); index++) {
+            x.append(text.charAt(index));
+        }
+    }
+
+    /** An engine with the rules of the texts. */
+    static PolicyEngine engine(String... texts) {
+        PolicyEngine x = new PolicyEngine();
+        for (String text : texts) {
+            type(x, text);
+            x.read();
+        }
+        return x;
+    }
+
+    static void request(PolicyEngine x, int... values) {
+        for (int attribute = 0; attribute < values.length; attribute++) {
+            x.setValue(attribute, values[attribute]);
+        }
+    }
+
+    static String text(PolicyEngine x, int rule) {
+        StringBuilder text = new StringBuilder();
+        int length = x.describe(rule, -1);
+        for (int index = 0; index < length; index++) {
+            text.append((char) x.describe(rule, index));
+        }
+        return text.toString();
+    }
+
+    /** All rules, one behind the other. */
+    static String texts(PolicyEngine x) {
+        StringBuilder text = new StringBuilder();
+        for (int rule = 0; rule < x.ruleCount(); rule++) {
+            text.append(text(x, rule));
+        }
+        return text.toString();
+    }
+
+    /** All grants: from, to, policy, depth and expiry of each. */
+    static String grants(PolicyEngine x) {
+        StringBuilder text = new StringBuilder();
+        for (int index = 0; index < x.grantCount(false); index++) {
+            for (int what = 0; what < 5; what++) {
+                text.append(x.grantAt(index, what)).append(what < 4 ? "," : ";");
+            }
+        }
+        return text.toString();
+    }
+}
