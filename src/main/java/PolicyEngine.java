@@ -382,9 +382,9 @@ public final class PolicyEngine {
         requireRule(rule);
         requireIndex(attribute, ATTRIBUTES);
         table.refresh();
-        int rank = table.rankOf[rule];
-        requireElement(search.canDecide(rank));
-        return search.firstValue(rank, attribute);
+        int value = search.witnessValue(table.rankOf[rule], attribute);
+        requireElement(value >= 0);
+        return value;
     }
 
     public int blocker(int rule) throws IndexOutOfBoundsException, IllegalStateException, NoSuchElementException {
@@ -629,7 +629,7 @@ public final class PolicyEngine {
             int conditions = cell(rule, CONDITIONS);
             for (int index = 0; index < conditions; index++) {
                 if (conditionCell(rule, index, ATTRIBUTE) == attribute
-                        && (valuesOf(rule, index) & 1 << value) == 0) {
+                        && (valuesOf(rule, index) & (1 << value)) == 0) {
                     return true;
                 }
             }
@@ -850,7 +850,7 @@ public final class PolicyEngine {
         int allowing(int set, int attribute, int value) {
             int left = set;
             for (int rank = 0; rank < count; rank++) {
-                if ((box(rank, attribute) & 1 << value) == 0) {
+                if ((box(rank, attribute) & (1 << value)) == 0) {
                     left &= ~(1 << rank);
                 }
             }
@@ -860,7 +860,7 @@ public final class PolicyEngine {
         int rulesOf(int policies) {
             int set = 0;
             for (int policy = 0; policy < POLICIES; policy++) {
-                if ((policies & 1 << policy) != 0) {
+                if ((policies & (1 << policy)) != 0) {
                     set |= policySets[policy];
                 }
             }
@@ -878,9 +878,9 @@ public final class PolicyEngine {
                 case PERMIT_WINS:
                     return (own & ~denySet) != 0 ? PERMIT : DENY;
                 case FIRST_WINS:
-                    return (own & -own & denySet) != 0 ? DENY : PERMIT;
+                    return ((own & -own) & denySet) != 0 ? DENY : PERMIT;
                 default:
-                    return (own & own - 1) != 0 ? CONFLICT : (own & denySet) != 0 ? DENY : PERMIT;
+                    return (own & (own - 1)) != 0 ? CONFLICT : (own & denySet) != 0 ? DENY : PERMIT;
             }
         }
 
@@ -889,7 +889,7 @@ public final class PolicyEngine {
             int number = 0;
             int first = NONE;
             for (int policy = 0; policy < POLICIES; policy++) {
-                int decision = (usable & 1 << policy) != 0 ? policyDecisionOf(policy, applying) : NONE;
+                int decision = (usable & (1 << policy)) != 0 ? policyDecisionOf(policy, applying) : NONE;
                 if (decision != NONE) {
                     decisions |= 1 << decision;
                     number++;
@@ -913,10 +913,10 @@ public final class PolicyEngine {
         }
 
         private static int strongest(int decisions, int winner, int loser) {
-            if ((decisions & 1 << winner) != 0) {
+            if ((decisions & (1 << winner)) != 0) {
                 return winner;
             }
-            return (decisions & 1 << CONFLICT) != 0 ? CONFLICT : loser;
+            return (decisions & (1 << CONFLICT)) != 0 ? CONFLICT : loser;
         }
 
         /** The number of the deciding rule, or -1 if there is none. */
@@ -925,7 +925,7 @@ public final class PolicyEngine {
                 return -1;
             }
             for (int policy = 0; policy < POLICIES; policy++) {
-                if ((usable & 1 << policy) != 0 && policyDecisionOf(policy, applying) == decision) {
+                if ((usable & (1 << policy)) != 0 && policyDecisionOf(policy, applying) == decision) {
                     int effectSet = decision == DENY ? denySet : ~denySet;
                     return lowest(applying & policySets[policy] & effectSet);
                 }
@@ -935,7 +935,7 @@ public final class PolicyEngine {
 
         private int lowest(int set) {
             for (int rank = 0; rank < count; rank++) {
-                if ((set & 1 << rank) != 0) {
+                if ((set & (1 << rank)) != 0) {
                     return ruleAt[rank];
                 }
             }
@@ -948,7 +948,7 @@ public final class PolicyEngine {
             int policy = state.rules.cell(ruleAt[rank], POLICY);
             boolean isDeny = (denySet & self) != 0;
             int own = policySets[policy];
-            int before = own & self - 1;
+            int before = own & (self - 1);
             int otherEffect = own & (isDeny ? ~denySet : denySet);
             switch (state.ways[policy]) {
                 case DENY_WINS:
@@ -1005,7 +1005,7 @@ public final class PolicyEngine {
         }
 
         private boolean areOpposed(int first, int second, int policy) {
-            int pair = 1 << first | 1 << second;
+            int pair = (1 << first) | (1 << second);
             int denies = pair & denySet;
             return (pair & ~policySets[policy]) == 0 && denies != 0 && denies != pair;
         }
@@ -1036,11 +1036,11 @@ public final class PolicyEngine {
             return table.sizeOf(rank) > 0 && hasFree(0, rivals);
         }
 
-        /** The value that the witness of a rule that decides somewhere has for an attribute. */
-        int firstValue(int rank, int attribute) {
+        /** The value that the witness of a rule has for an attribute, or -1 if there is no witness. */
+        int witnessValue(int rank, int attribute) {
             int rivals = table.rivals(rank);
-            for (int each = 0; each < ATTRIBUTES; each++) {
-                domains[each] = table.box(rank, each);
+            if (!isFree(rank, rivals)) {
+                return -1;
             }
             int value = 0;
             for (int each = 0; each <= attribute; each++) {
@@ -1053,7 +1053,7 @@ public final class PolicyEngine {
         private int fixFirst(int attribute, int rivals) {
             int domain = domains[attribute];
             for (int value = 0; value < VALUES; value++) {
-                domains[attribute] = domain & 1 << value;
+                domains[attribute] = domain & (1 << value);
                 if (domains[attribute] != 0 && hasFree(0, rivals)) {
                     return value;
                 }
@@ -1072,7 +1072,7 @@ public final class PolicyEngine {
             int hardest = 0;
             int ways = 0;
             for (int rank = 0; rank < MAX_RULES; rank++) {
-                if ((rivals & 1 << rank) == 0 || isAvoided(level, rank)) {
+                if ((rivals & (1 << rank)) == 0 || isAvoided(level, rank)) {
                     continue;
                 }
                 int escapes = escapes(level, rank);
@@ -1092,7 +1092,7 @@ public final class PolicyEngine {
             int start = level * ATTRIBUTES;
             System.arraycopy(domains, start - ATTRIBUTES, domains, start, ATTRIBUTES);
             for (int attribute = 0; attribute < ATTRIBUTES; attribute++) {
-                if ((ways & 1 << attribute) == 0) {
+                if ((ways & (1 << attribute)) == 0) {
                     continue;
                 }
                 int domain = domains[start + attribute];
@@ -1240,7 +1240,7 @@ public final class PolicyEngine {
             return grants.cell(index, GRANT_POLICY) == policy
                     && grants.cell(index, EXPIRY) >= clock
                     && grants.cell(index, DEPTH) >= after
-                    && (starts[after] & 1 << grants.cell(index, TO)) != 0;
+                    && (starts[after] & (1 << grants.cell(index, TO))) != 0;
         }
 
         /** A subject of the chain that counts, whose length fewest told just before. */
@@ -1313,8 +1313,6 @@ public final class PolicyEngine {
      * place of the first character that is not accepted is the error position.
      */
     private static final class Reader {
-        private static final char END = 0;
-
         private final char[] input = new char[MAX_INPUT];
         int length;
         private int place;
@@ -1343,12 +1341,8 @@ public final class PolicyEngine {
             return isText;
         }
 
-        private char next() {
-            return place < length ? input[place] : END;
-        }
-
         private boolean accept(char wanted) {
-            if (next() != wanted) {
+            if (place >= length || input[place] != wanted) {
                 return false;
             }
             place++;
@@ -1357,7 +1351,7 @@ public final class PolicyEngine {
 
         /** The number that the next character has from a first one on, or -1 if it is not one of so many. */
         private int acceptFrom(char first, int count) {
-            int number = next() - first;
+            int number = place < length ? input[place] - first : -1;
             if (number < 0 || number >= count) {
                 return -1;
             }
@@ -1461,7 +1455,7 @@ public final class PolicyEngine {
                 return -1;
             }
             // Any digit behind belongs to the number, so one that makes it too great is the error.
-            int second = next() - '0';
+            int second = place < length ? input[place] - '0' : -1;
             if (second < 0 || second > 9) {
                 return number;
             }
@@ -1524,7 +1518,7 @@ public final class PolicyEngine {
         private void putSet(int set) {
             char before = '{';
             for (int value = 0; value < VALUES; value++) {
-                if ((set & 1 << value) != 0) {
+                if ((set & (1 << value)) != 0) {
                     put(before);
                     putNumber(value);
                     before = ',';

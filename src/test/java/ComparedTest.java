@@ -120,6 +120,18 @@ public final class ComparedTest {
                 }
             }
         }
+        PolicyEngine z = Check.engine("0+a<8:9;0-b<8:8;0+:5;0-c<8:9;0-:3;");
+        z.setWay(0, 1);
+        Check.is("37: permit behind permit", witnessOf(z, 2), "8,0,0,0,0,0");
+        z.setWay(0, 0);
+        Check.is("37: deny behind deny", witnessOf(z, 4), "0,8,8,0,0,0");
+        Check.fails("37: permit, where all is denied", Check.ELEMENT, () -> z.witness(2, 0));
+        z.removeRule(4);
+        Check.is("37: permit behind permit and deny", witnessOf(z, 2), "8,8,8,0,0,0");
+        z.setWay(0, 1);
+        Check.fails("37: deny, where all is permitted", Check.ELEMENT, () -> z.witness(1, 0));
+        z.removeRule(2);
+        Check.is("37: deny behind deny and permit", witnessOf(z, 1), "8,0,8,0,0,0");
         x.setSubject(5);
         Check.request(x, 9, 9, 9, 9, 9, 9);
         Check.is("37: of the other policy", witnessOf(x, 4), "0,0,0,0,4,0");

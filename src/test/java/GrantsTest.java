@@ -39,6 +39,8 @@ public final class GrantsTest {
         Check.fails("12: argument first", Check.ARGUMENT, () -> x.grant(5, 8, 0, 6, 0));
         Check.is("12: in place of one of 30", x.grant(1, 0, 2, 4, 44), 30);
         Check.is("12: placed", x.grantAt(1, 4), 44);
+        Check.is("12: in place of the first of 30", x.grant(0, 1, 2, 4, 45), 30);
+        Check.is("12: placed first", x.grantAt(0, 4), 45);
     }
 
     private static void revoke() {
@@ -175,6 +177,12 @@ public final class GrantsTest {
         Check.fails("18: at -1", Check.ELEMENT, () -> x.chain(9, 0, -1));
         x.tick(51);
         Check.is("18: the next one", x.chain(9, 0, 2), 8);
+        PolicyEngine y = new PolicyEngine();
+        y.grant(0, 1, 3, 1, 9);
+        y.grant(0, 2, 3, 1, 9);
+        y.grant(2, 3, 3, 1, 9);
+        y.grant(1, 3, 3, 1, 9);
+        Check.is("18: by the first grant", y.chain(3, 3, 1), 1);
         Check.is("18: subject 0", x.chain(0, 3, 0), 0);
         Check.fails("18: subject 0 at 1", Check.ELEMENT, () -> x.chain(0, 3, 1));
         Check.fails("18: may not", Check.ELEMENT, () -> x.chain(9, 1, 0));

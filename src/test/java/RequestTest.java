@@ -106,6 +106,9 @@ public final class RequestTest {
         Check.is("25: the first", x.failing(0), 0);
         x.setValue(0, 3);
         Check.is("25: the first again", x.failing(0), 1);
+        x.setValue(0, 0);
+        Check.is("25: value 0 is known", x.failing(0), 0);
+        x.setValue(0, 3);
         Check.fails("25: no conditions", Check.ELEMENT, () -> x.failing(1));
         Check.fails("25: each by itself", Check.ELEMENT, () -> x.failing(2));
         Check.is("25: applies looks at both", x.applies(2), 0);
@@ -206,6 +209,12 @@ public final class RequestTest {
         Check.is("27: of the subject's policy", x.decidingRule(), 3);
         x.setWay(1, 3);
         Check.fails("27: conflict", Check.ELEMENT, x::decidingRule);
+        PolicyEngine y = Check.engine("0+:0;1+:9;");
+        Check.request(y, 0, 0, 0, 0, 0, 0);
+        Check.is("27: rule 0", y.decidingRule(), 0);
+        y.removeRule(0);
+        Check.is("27: the other policy's after a removal", y.policyDecision(0), 2);
+        Check.is("27: its new number", y.decidingRule(), 0);
     }
 
     private static void policyDecision() {

@@ -127,6 +127,10 @@ public final class TextTest {
         errorAt("0+a=1&b=1&c=1&d=1", 17);
         errorAt("0+a=1&b=1&c=1&d=1&", 17);
         errorAt("0+a=1&b=1&c=1&d=11&e=1:0;", 18);
+        errorAt("0+a=1&b=1&c=1&d=115;", 18);
+        errorAt("0+a{:0;", 4);
+        errorAt("0+a{1:0;", 5);
+        errorAt("0+a{1,:0;", 6);
         errorAt("0+:", 3);
         errorAt("0+::0;", 3);
         errorAt("0+:/;", 3);
