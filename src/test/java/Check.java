@@ -1,3 +1,7 @@
+import java.io.IOException;
+import java.io.UncheckedIOException;
+import java.nio.file.Files;
+import java.nio.file.Path;
 import java.util.NoSuchElementException;
 
 /** Counts the answers that differ from those that are due. */
@@ -14,15 +18,44 @@ final class Check {
 
     private static int wrong = 0;
     private static int made = 0;
+    private static String document = "";
+    private static String sentence = "";
 
     private Check() {
+    }
+
+    private static void wrong(String what, String got, Object want) {
+        wrong++;
+        System.out.println(what + ": " + got + ", due is " + want);
+        if (!sentence.isEmpty()) {
+            System.out.println("    the document: " + sentence);
+        }
+    }
+
+    /** The sentence, or a part of one, that the answers from here on are about: it stands so in the document. */
+    static void sentence(String words) {
+        if (document.isEmpty()) {
+            document = document();
+        }
+        made++;
+        sentence = words;
+        if (!document.contains(words)) {
+            wrong("sentence", "not in the document", "one that is");
+        }
+    }
+
+    private static String document() {
+        try {
+            return Files.readString(Path.of("../shared/DOC.md")).replaceAll("\\s+", " ");
+        } catch (IOException e) {
+            throw new UncheckedIOException(e);
+        }
     }
 
     static void is(String what, Object got, Object want) {
         made++;
         if (!got.equals(want)) {
-            wrong++;
-            System.out.println(what + ": answered " + got + ", due is " + want);
+            wrong(what, "answered " + got, want);
         }
     }
 
@@ -31,12 +64,10 @@ final class Check {
         made++;
         try {
             Object got = call.make();
-            wrong++;
-            System.out.println(what + ": answered " + got + ", due is " + want.getSimpleName());
+            wrong(what, "answered " + got, want.getSimpleName());
         } catch (RuntimeException e) {
             if (e.getClass() != want) {
-                wrong++;
-                System.out.println(what + ": threw " + e + ", due is " + want.getSimpleName());
+                wrong(what, "threw " + e, want.getSimpleName());
             }
         }
     }
