@@ -1,7 +1,9 @@
-/** Long runs of mixed calls, each answer compared with the one of the model. */
+/** Runs of as many mixed calls as an object is used for, each answer compared with the one of the model. */
 public final class ModelTest {
-    private static final int RUNS = 80;
+    private static final int RUNS = 100;
     private static final int CALLS = 512;
+    /** As many as everything needs at most. */
+    private static final int LAST_CALLS = 130;
 
     private interface Answer {
         Object tell();
@@ -16,6 +18,7 @@ public final class ModelTest {
     private final int policies;
     private final int attributes;
     private long seed;
+    private int calls = 0;
 
     private ModelTest(int run) {
         name = "run " + run;
@@ -71,14 +74,17 @@ public final class ModelTest {
         }
     }
 
-    private Object same(String call, Answer program, Answer plain) {
-        Object due = answer(plain);
-        Check.is(name + ", " + call, answer(program), due);
-        return due;
+    /** What an object answers after its last call is free, so that it is not asked. */
+    private void same(String call, Answer program, Answer plain) {
+        calls++;
+        if (calls <= CALLS) {
+            Check.is(name + ", call " + calls + ", " + call, answer(program), answer(plain));
+        }
     }
 
     private void play() {
-        for (int call = 0; call < CALLS; call++) {
+        start();
+        while (calls < CALLS - LAST_CALLS) {
             int dice = below(100);
             if (dice < 40) {
                 change();
@@ -97,10 +103,21 @@ public final class ModelTest {
         everything();
     }
 
+    /** Rules and grants first, so that there is something to ask about. */
+    private void start() {
+        for (int number = 0; number < 5 + below(12); number++) {
+            addRule();
+            addCondition();
+        }
+        for (int number = 0; number < 5 + below(20); number++) {
+            grant();
+        }
+    }
+
     private void change() {
         switch (below(16)) {
             case 0, 1 -> addRule();
-            case 2, 3, 4, 5 -> addCondition();
+            case 2, 3, 4, 5, 14 -> addCondition();
             case 6 -> {
                 int rule = rule();
                 if (model.ruleCount() > 6) {
@@ -272,11 +289,10 @@ public final class ModelTest {
         int policy = policy();
         int index = number(0, 4);
         same("policies", () -> x.policies(subject), () -> model.policies(subject));
-        Object length = same("chainLength", () -> x.chainLength(subject, policy),
-                () -> model.chainLength(subject, policy));
+        same("chainLength", () -> x.chainLength(subject, policy), () -> model.chainLength(subject, policy));
         same("chain", () -> x.chain(subject, policy, index), () -> model.chain(subject, policy, index));
-        if (length instanceof Integer known) {
-            for (int place = 0; place <= known; place++) {
+        if (answer(() -> model.chainLength(subject, policy)) instanceof Integer length) {
+            for (int place = 0; place <= length; place++) {
                 int each = place;
                 same("chain", () -> x.chain(subject, policy, each), () -> model.chain(subject, policy, each));
             }
@@ -322,33 +338,29 @@ public final class ModelTest {
         }
     }
 
-    /** At the end of a run, all that can be told. */
+    /** At the end of a run, something of each part of the state. */
     private void everything() {
         same("ruleCount", x::ruleCount, model::ruleCount);
         for (int rule = 0; rule < model.ruleCount(); rule++) {
             int each = rule;
-            int length = model.describe(rule, -1);
-            for (int index = -1; index < length; index++) {
-                int place = index;
-                same("describe", () -> x.describe(each, place), () -> model.describe(each, place));
-            }
+            same("describe", () -> x.describe(each, -1), () -> model.describe(each, -1));
             same("witness", () -> x.witness(each, 0), () -> model.witness(each, 0));
         }
         same("auditCount", x::auditCount, model::auditCount);
         for (int index = 0; index < model.auditCount(); index++) {
-            for (int what = 0; what < 4; what++) {
-                int place = index;
-                int cell = what;
-                same("audit", () -> x.audit(place, cell), () -> model.audit(place, cell));
-            }
+            int each = index;
+            int what = 2 + below(2);
+            same("audit", () -> x.audit(each, what), () -> model.audit(each, what));
         }
         same("grantCount", () -> x.grantCount(false), () -> model.grantCount(false));
         for (int index = 0; index < model.grantCount(false); index++) {
-            for (int what = 0; what < 5; what++) {
-                int place = index;
-                int cell = what;
-                same("grantAt", () -> x.grantAt(place, cell), () -> model.grantAt(place, cell));
-            }
+            int each = index;
+            int what = below(5);
+            same("grantAt", () -> x.grantAt(each, what), () -> model.grantAt(each, what));
+        }
+        while (calls < CALLS) {
+            same("undo", x::undo, model::undo);
+            same("describe", () -> x.describe(0, 5), () -> model.describe(0, 5));
         }
     }
 }

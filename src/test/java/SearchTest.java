@@ -1,3 +1,7 @@
+import java.util.Arrays;
+import java.util.HashSet;
+import java.util.Set;
+
 /** Promises 36 to 38 where many rules leave little room: each request of four attributes is tried. */
 public final class SearchTest {
     private static final int RULES = 24;
@@ -93,18 +97,16 @@ public final class SearchTest {
     private void compare(String name) {
         int[] witnesses = new int[RULES];
         int[][] without = new int[RULES][RULES];
-        java.util.Arrays.fill(witnesses, -1);
+        Set<Integer> seen = new HashSet<>();
+        Arrays.fill(witnesses, -1);
         for (int request = REQUESTS - 1; request >= 0; request--) {
             int applying = applying(request);
             int decider = decider(applying);
             if (decider >= 0) {
                 witnesses[decider] = request;
             }
-            for (int other = 0; other < RULES; other++) {
-                int then = (applying >> other) % 2 == 1 ? decider(applying & ~(1 << other)) : decider;
-                if (then >= 0) {
-                    without[then][other] = 1;
-                }
+            if (seen.add(applying)) {
+                removeEach(applying, decider, without);
             }
         }
         int never = 0;
@@ -113,6 +115,16 @@ public final class SearchTest {
             compareRule(name + ", rule " + rule, rule, witnesses[rule], without[rule]);
         }
         Check.is(name + ", never deciding", x.neverDeciding(0), never);
+    }
+
+    /** Notes for each other rule the one that decides without it. */
+    private void removeEach(int applying, int decider, int[][] without) {
+        for (int other = 0; other < RULES; other++) {
+            int then = (applying >> other) % 2 == 1 ? decider(applying & ~(1 << other)) : decider;
+            if (then >= 0) {
+                without[then][other] = 1;
+            }
+        }
     }
 
     private void compareRule(String name, int rule, int witness, int[] without) {
