@@ -6,6 +6,7 @@ public final class ComparedEdgesTest {
         overlaps();
         overlapsWithItself();
         covers();
+        eachAttribute();
         coversNothing();
         clashesOfOnePolicy();
         clashesOfDifferentEffects();
@@ -18,6 +19,7 @@ public final class ComparedEdgesTest {
         subjectsDoNotMatter();
         firstAndLastWitness();
         witnessOrder();
+        eachWayToAvoid();
         witnessWithoutOne();
         witnessNumbers();
         blockerLowest();
@@ -125,6 +127,31 @@ public final class ComparedEdgesTest {
         Check.fails("34: rule 7 second", Check.INDEX, () -> x.covers(6, 7));
         Check.fails("34: both", Check.INDEX, () -> x.covers(7, 7));
         Check.fails("34: -1 twice", Check.INDEX, () -> x.covers(-1, -1));
+    }
+
+    /** A condition on one attribute alone, for each attribute. */
+    private static void eachAttribute() {
+        Check.sentence("to each complete request to which another one applies");
+        PolicyEngine x = new PolicyEngine();
+        for (int attribute = 0; attribute < 6; attribute++) {
+            x.addRule(0, attribute % 2 == 0, 0);
+            x.addCondition(attribute, attribute, 3, 15);
+        }
+        x.addRule(0, false, 0);
+        for (int attribute = 0; attribute < 6; attribute++) {
+            x.addRule(0, attribute % 2 == 1, 0);
+            x.addCondition(7 + attribute, attribute, 2, 15);
+        }
+        for (int first = 0; first < 6; first++) {
+            Check.is("32: " + first, x.extent(first), 1048576);
+            Check.is("34: all by " + first, x.covers(first, 6), false);
+            Check.is("34: " + first + " by all", x.covers(6, first), true);
+            for (int second = 0; second < 6; second++) {
+                Check.is("34: " + first + " covers " + second, x.covers(first, second), first == second);
+                Check.is("33: " + first + " and " + second, x.overlap(first, second), true);
+                Check.is("33: " + first + " and the rest of " + second, x.overlap(first, 7 + second), first != second);
+            }
+        }
     }
 
     private static void coversNothing() {
@@ -308,6 +335,28 @@ public final class ComparedEdgesTest {
         Check.is("37: none of them is left", witness(x, 2), "1,0,0,0,0,0");
         x.removeRule(0);
         Check.is("37: the lower ones are free", witness(x, 1), "0,0,0,0,0,0");
+    }
+
+    /** A rule is avoided by one of its attributes, though another one could do it, too, as far as it goes alone. */
+    private static void eachWayToAvoid() {
+        Check.sentence("for which it decides");
+        String[] letters = {"a", "b", "c", "d", "e", "f"};
+        for (int free = 0; free < 6; free++) {
+            for (int taken = 0; taken < 6; taken++) {
+                int third = free != 5 && taken != 5 ? 5 : free != 4 && taken != 4 ? 4 : 3;
+                if (free == taken) {
+                    continue;
+                }
+                String a = letters[free];
+                String b = letters[taken];
+                String c = letters[third];
+                PolicyEngine x = Check.engine("0-" + a + "<8&" + b + "<8:9;0-" + b + ">8&" + c + "<8:9;"
+                        + "0-" + b + ">8&" + c + ">8:9;0+:0;");
+                for (int attribute = 0; attribute < 6; attribute++) {
+                    Check.is("37: " + a + " and not " + b, x.witness(3, attribute), attribute == free ? 8 : 0);
+                }
+            }
+        }
     }
 
     private static void witnessWithoutOne() {

@@ -25,6 +25,7 @@ public final class TextEdgesTest {
         emptyInput();
         longestText();
         emptiedWhateverHappens();
+        nothingBehindTheEnd();
         allOrNone();
         errorHoweverManyRules();
         inTheirOrder();
@@ -400,6 +401,29 @@ public final class TextEdgesTest {
         Check.type(x, "0+:0;");
         Check.fails("44: too many", Check.STATE, x::read);
         Check.is("43: behind too many", x.append('0'), 1);
+    }
+
+    /** Of a longer input before, nothing is seen behind the end of a shorter one. */
+    private static void nothingBehindTheEnd() {
+        Check.sentence("if there is no such index, it is the length of the text.");
+        String whole = "0+a=12&b{13,14}:5;1-c=11:6;";
+        for (int length = 0; length < whole.length(); length++) {
+            PolicyEngine x = with(whole);
+            Check.is("44: whole", x.read(), 2);
+            Check.type(x, whole.substring(0, length));
+            if (length == 18) {
+                Check.is("44: the first rule", x.read(), 1);
+                continue;
+            }
+            Check.fails("44: the first " + length, Check.ARGUMENT, x::read);
+            Check.is("45: the first " + length, x.errorPosition(), length);
+        }
+        String start = "0+a{0,1,2,3,4,5,6,7,8,9,0,1,2,3,4,5,6,7,8,9,0,1,2,3,4,5,6,7,8,9,0";
+        String[] ends = {",1,11", ",1,12", ",1,2,", ",1,2}", ",12,1", "1,2,3", ",1}:9", "1}&a=", "1}&a#", "1}&a{"};
+        for (String end : ends) {
+            error(start + end, 70);
+        }
+        error("0+:0;1+:1;2+:2;3+:3;0-:4;1-:5;2-:6;3-:7;0+:8;1+:9;2+:0;3+:1;0-:2;1-:3", 69);
     }
 
     private static void allOrNone() {
