@@ -3,6 +3,7 @@ import java.io.UncheckedIOException;
 import java.nio.file.Files;
 import java.nio.file.Path;
 import java.util.NoSuchElementException;
+import java.util.regex.Pattern;
 
 /** Counts the answers that differ from those that are due. */
 final class Check {
@@ -44,6 +45,19 @@ final class Check {
         }
     }
 
+    /** A sentence that stands in the chapter of a promise. */
+    static void sentenceOf(int promise, String words) {
+        sentence(words);
+        int start = document.indexOf("## Promise " + promise + ": ");
+        int end = document.indexOf("## ", start + 3);
+        is(promise + ": a sentence of this promise", start >= 0 && document.substring(start, end).contains(words), true);
+    }
+
+    /** How often words stand in the document. */
+    static int timesInDocument(String words) {
+        return document().split(Pattern.quote(words), -1).length - 1;
+    }
+
     private static String document() {
         try {
             return Files.readString(Path.of("../shared/DOC.md")).replaceAll("\\s+", " ");
@@ -56,6 +70,15 @@ final class Check {
         made++;
         if (!got.equals(want)) {
             wrong(what, "answered " + got, want);
+        }
+    }
+
+    static void returns(String what, Call call) {
+        made++;
+        try {
+            call.make();
+        } catch (RuntimeException e) {
+            wrong(what, "threw " + e, "an answer");
         }
     }
 

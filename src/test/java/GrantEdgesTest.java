@@ -16,6 +16,7 @@ public final class GrantEdgesTest {
         onlyValidOnes();
         subjectZero();
         grantsToSubjectZero();
+        chainForBoth();
         mayUse();
         fewestGrants();
         lexicographicallyFirst();
@@ -302,6 +303,21 @@ public final class GrantEdgesTest {
         Check.is("17: of the other", x.chainLength(1, 0), 1);
         x.grant(0, 2, 0, 0, 100);
         Check.is("17: not by way of the ring", x.chainLength(2, 0), 1);
+    }
+
+    private static void chainForBoth() {
+        Check.sentence("Another subject may use a policy if there is a chain for both.");
+        PolicyEngine x = new PolicyEngine();
+        x.grant(0, 1, 0, 1, 100);
+        x.grant(1, 9, 0, 0, 100);
+        x.grant(0, 1, 3, 0, 100);
+        x.grant(1, 9, 3, 5, 100);
+        Check.is("16: the first subject", x.policies(1), 9);
+        Check.is("16: the last subject", x.policies(9), 1);
+        Check.is("17: a chain", x.chainLength(9, 0), 2);
+        Check.fails("17: no chain for the policy", Check.ELEMENT, () -> x.chainLength(9, 3));
+        Check.fails("17: no chain for the subject", Check.ELEMENT, () -> x.chainLength(8, 0));
+        Check.fails("17: no chain for both", Check.ELEMENT, () -> x.chainLength(8, 3));
     }
 
     private static void mayUse() {

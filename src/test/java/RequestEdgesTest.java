@@ -1,6 +1,8 @@
 /** The boundary cases of requests and decisions, and of promises 21 to 31: a test for each sentence. */
 public final class RequestEdgesTest {
     public static void main(String[] args) {
+        attributes();
+        masks();
         firstRequest();
         subjects();
         values();
@@ -18,7 +20,9 @@ public final class RequestEdgesTest {
         onlyOne();
         sameEffect();
         decidingRuleOfAPolicy();
+        decisionsAsNumbers();
         nonePolicies();
+        otherThanNone();
         topDenyWins();
         topPermitWins();
         topFirst();
@@ -41,6 +45,60 @@ public final class RequestEdgesTest {
         PolicyEngine x = Check.engine(texts);
         Check.request(x, value, value, value, value, value, value);
         return x;
+    }
+
+    private static void attributes() {
+        Check.sentence("There are 6 attributes, numbered from 0, with values from 0 to 15.");
+        for (int attribute = 0; attribute < 6; attribute++) {
+            int each = attribute;
+            PolicyEngine x = Check.engine("0+:0;");
+            Check.is("3: attribute " + attribute, x.addCondition(0, attribute, 0, 15), 1);
+            Check.is("10: attribute " + attribute, x.condition(0, 0, 0), attribute);
+            Check.is("22: the greatest value", x.setValue(attribute, 15), -1);
+            Check.is("24: at it", x.applies(0), 1);
+            Check.is("22: the least value", x.setValue(attribute, 0), 15);
+            Check.is("24: at 0", x.applies(0), 0);
+            Check.is("37: the greatest value", x.witness(0, attribute), 15);
+            Check.fails("22: one more", Check.ARGUMENT, () -> x.setValue(each, 16));
+            Check.is("22: as it was", x.setValue(attribute, 0), 0);
+            Check.is("11: the greatest value", x.specialize(attribute, 15), 0);
+        }
+        PolicyEngine x = Check.engine("0+:0;");
+        Check.fails("3: attribute 6", Check.ARGUMENT, () -> x.addCondition(0, 6, 0, 0));
+        Check.fails("3: attribute -1", Check.ARGUMENT, () -> x.addCondition(0, -1, 0, 0));
+        Check.fails("22: attribute 6", Check.INDEX, () -> x.setValue(6, 0));
+        Check.fails("22: attribute -1", Check.INDEX, () -> x.setValue(-1, 0));
+        Check.fails("11: attribute 6", Check.INDEX, () -> x.specialize(6, 0));
+        Check.fails("11: attribute -1", Check.INDEX, () -> x.specialize(-1, 0));
+    }
+
+    private static void masks() {
+        Check.sentence("Sets are bit masks, bit k for number k.");
+        PolicyEngine x = engineAt(0, "0+a=0:0;0-a=15:0;");
+        Check.is("23: none", x.unknown(), 0);
+        Check.is("29: bit 0", x.possible(), 1);
+        x.setValue(0, 15);
+        Check.is("29: bit 1", x.possible(), 2);
+        x.setValue(0, 1);
+        Check.is("29: bit 2", x.possible(), 4);
+        x.setTopWay(3);
+        x.addRule(1, false, 0);
+        x.addRule(2, false, 0);
+        Check.is("29: bit 3", x.possible(), 8);
+        Check.is("31: all bits", x.valuesFor(0, 3), 65535);
+        x.removeRule(3);
+        x.removeRule(2);
+        Check.is("31: bit 0", x.valuesFor(0, 0), 1);
+        Check.is("31: bit 15", x.valuesFor(0, 1), 32768);
+        x.grant(0, 1, 0, 0, 0);
+        x.grant(0, 2, 3, 0, 0);
+        Check.is("16: bit 0", x.policies(1), 1);
+        Check.is("16: bit 3", x.policies(2), 8);
+        x.setValue(0, -1);
+        Check.is("23: bit 0", x.unknown(), 1);
+        x.setValue(0, 0);
+        x.setValue(5, -1);
+        Check.is("23: bit 5", x.unknown(), 32);
     }
 
     private static void firstRequest() {
@@ -281,6 +339,42 @@ public final class RequestEdgesTest {
         Check.is("27: the first of all", x.decidingRule(), 2);
         x.setWay(0, 3);
         Check.fails("27: conflict", Check.ELEMENT, x::decidingRule);
+    }
+
+    private static void decisionsAsNumbers() {
+        Check.sentence("Decisions are 0 permit, 1 deny, 2 none, 3 conflict.");
+        PolicyEngine x = engineAt(0, "0+a{0,3}:0;0-a{1,3}:0;");
+        x.setWay(0, 3);
+        for (int value = 0; value < 4; value++) {
+            x.setValue(0, value);
+            Check.is("28: decision " + value, x.policyDecision(0), value);
+            Check.is("26: decision " + value, x.decide(), value);
+            Check.is("40: decision " + value, x.audit(value, 2), value);
+            Check.is("29: decision " + value, x.possible(), 1 << value);
+            Check.is("30: decision " + value, x.completions(value), 1);
+            Check.is("31: decision " + value, (x.valuesFor(0, value) >> value) % 2, 1);
+        }
+    }
+
+    private static void otherThanNone() {
+        Check.sentence("The decision for a complete request is made from the decisions of the policies that its subject "
+                + "may use, other than none");
+        PolicyEngine x = engineAt(0, "0+a=1:0;1-a=1:0;2+:0;3-a=1:0;");
+        for (int way = 0; way < 4; way++) {
+            x.setTopWay(way);
+            Check.is("26: the only one, top way " + way, x.decide(), 0);
+            Check.is("27: the only one, top way " + way, x.decidingRule(), 2);
+        }
+        x.setSubject(6);
+        x.grant(0, 6, 0, 0, 9);
+        x.grant(0, 6, 1, 0, 9);
+        x.grant(0, 6, 3, 0, 9);
+        for (int way = 0; way < 4; way++) {
+            x.setTopWay(way);
+            Check.is("26: not one that it may not use, top way " + way, x.decide(), 2);
+        }
+        x.grant(0, 6, 2, 0, 9);
+        Check.is("26: now it may", x.decide(), 0);
     }
 
     private static void nonePolicies() {

@@ -7,6 +7,7 @@ public final class RuleEdgesTest {
         policies();
         priorities();
         conditionNumbers();
+        ruleCounts();
         ruleNumbers();
         fullByRead();
         roomAgain();
@@ -105,6 +106,22 @@ public final class RuleEdgesTest {
             Check.is("3: the same one again", x.addCondition(1, 5, 4, ALL), number);
         }
         Check.fails("3: a fifth of the same", Check.STATE, () -> x.addCondition(1, 5, 4, ALL));
+    }
+
+    private static void ruleCounts() {
+        Check.sentence("Returns 0 to 24.");
+        PolicyEngine x = new PolicyEngine();
+        for (int rules = 0; rules < 24; rules++) {
+            Check.is("8: before " + rules, x.ruleCount(), rules);
+            x.addRule(0, false, 0);
+        }
+        Check.is("8: the greatest", x.ruleCount(), 24);
+        Check.fails("2: refused", Check.STATE, () -> x.addRule(0, false, 0));
+        Check.is("8: the greatest still", x.ruleCount(), 24);
+        for (int rules = 23; rules >= 0; rules--) {
+            x.removeRule(rules);
+            Check.is("8: down to " + rules, x.ruleCount(), rules);
+        }
     }
 
     private static void ruleNumbers() {
