@@ -5,6 +5,8 @@ public final class GrantEdgesTest {
         subjects();
         depthsAndExpiries();
         thirtyGrants();
+        chainsOfThirty();
+        nothingOfARevokedOne();
         atMostOne();
         validity();
         validityAtTheEnds();
@@ -119,6 +121,59 @@ public final class GrantEdgesTest {
         x.tick(100);
         Check.is("12: after undo", x.grant(0, 7, 0, 0, 0), 30);
         Check.fails("12: expired ones count", Check.STATE, () -> x.grant(0, 8, 0, 0, 0));
+    }
+
+    /** The chains of thirty grants: three subjects between 0 and the last ones, for two policies. */
+    private static void chainsOfThirty() {
+        Check.sentence("there are at most 30 grants");
+        PolicyEngine x = new PolicyEngine();
+        for (int policy = 0; policy < 2; policy++) {
+            for (int between = 3; between >= 1; between--) {
+                x.grant(0, between, policy, 1, 100 * between);
+                for (int subject = 4; subject < 8; subject++) {
+                    x.grant(between, subject, policy, 0, 10 * subject);
+                }
+            }
+        }
+        Check.is("14: thirty", x.grantCount(true), 30);
+        for (int subject = 4; subject < 8; subject++) {
+            for (int policy = 0; policy < 2; policy++) {
+                Check.is("16: of " + subject, x.policies(subject), 3);
+                Check.is("17: of " + subject, x.chainLength(subject, policy), 2);
+                Check.is("18: first of " + subject, x.chain(subject, policy, 1), 1);
+                Check.is("18: last of " + subject, x.chain(subject, policy, 2), subject);
+                Check.is("19: of " + subject, x.lastsUntil(subject, policy), 10 * subject + 1);
+            }
+        }
+        Check.is("20: at 70", x.tick(70), 12);
+        Check.is("19: the last one", x.lastsUntil(7, 1), 71);
+        Check.is("20: at 71", x.tick(1), 6);
+        Check.is("19: the three are left", x.lastsUntil(3, 1), 301);
+    }
+
+    /** A grant that was revoked leaves nothing, also if it was the last one. */
+    private static void nothingOfARevokedOne() {
+        Check.sentence("Removes a grant.");
+        PolicyEngine x = new PolicyEngine();
+        x.grant(0, 2, 0, 1, 50);
+        x.grant(2, 9, 0, 0, 50);
+        x.grant(1, 9, 0, 0, 80);
+        x.grant(0, 1, 0, 1, 80);
+        Check.is("18: by way of 1", x.chain(9, 0, 1), 1);
+        Check.is("19: by way of 1", x.lastsUntil(9, 0), 81);
+        x.revoke(0, 1, 0);
+        Check.is("18: by way of 2", x.chain(9, 0, 1), 2);
+        Check.is("19: by way of 2", x.lastsUntil(9, 0), 51);
+        Check.is("16: not 1 itself", x.policies(1), 0);
+        Check.fails("15: not told", Check.INDEX, () -> x.grantAt(3, 0));
+        Check.fails("13: not there", Check.ELEMENT, () -> x.revoke(0, 1, 0));
+        Check.is("14: not counted", x.grantCount(true), 3);
+        x.grant(0, 1, 0, 1, 80);
+        x.undo();
+        Check.is("18: by way of 2, after undo", x.chain(9, 0, 1), 2);
+        x.revoke(1, 9, 0);
+        x.revoke(2, 9, 0);
+        Check.is("16: of 9", x.policies(9), 0);
     }
 
     private static void atMostOne() {

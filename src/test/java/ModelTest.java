@@ -14,6 +14,8 @@ public final class ModelTest {
     private final String name;
     /** How often one of the ranges of numbers is left, in percent. */
     private final int wild;
+    /** Whether there are as many rules and grants as can be at first. */
+    private final boolean isFull;
     private final int subjects;
     private final int policies;
     private final int attributes;
@@ -24,6 +26,7 @@ public final class ModelTest {
         name = "run " + run;
         seed = run * 7919L + 17;
         wild = run % 3 == 0 ? 10 : 2;
+        isFull = run % 7 < 2;
         subjects = run % 2 == 0 ? 10 : 5;
         policies = run % 5 == 0 ? 1 : run % 5 == 1 ? 2 : 4;
         attributes = run % 4 == 0 ? 2 : run % 4 == 1 ? 3 : 6;
@@ -103,13 +106,15 @@ public final class ModelTest {
         everything();
     }
 
-    /** Rules and grants first, so that there is something to ask about. */
+    /** Rules and grants first, so that there is something to ask about; in some runs as many as can be. */
     private void start() {
-        for (int number = 0; number < 5 + below(12); number++) {
+        int rules = isFull ? 24 : 5 + below(8);
+        for (int number = 0; number < 40 && model.ruleCount() < rules; number++) {
             addRule();
             addCondition();
         }
-        for (int number = 0; number < 5 + below(20); number++) {
+        int grants = isFull ? 30 : 5 + below(15);
+        for (int number = 0; number < 80 && model.grantCount(false) < grants; number++) {
             grant();
         }
     }

@@ -34,6 +34,7 @@ public final class RequestEdgesTest {
         possibleDecisions();
         sameSubject();
         completionsCounted();
+        allRules();
         decisionNumbers();
         valuesForItself();
         valuesForAllOrNone();
@@ -608,6 +609,41 @@ public final class RequestEdgesTest {
         Check.is("30: all but one of a sixteenth", y.completions(0), 255);
         Check.is("30: two of them", y.completions(1), 2);
         Check.is("30: the others", y.completions(2), 4096 - 257);
+    }
+
+    /** 24 rules, of which each decides for one value of attribute 0 or 1, the last one for all others. */
+    private static void allRules() {
+        Check.sentence("There are at most 24 rules");
+        PolicyEngine x = engineAt(0);
+        for (int rule = 0; rule < 24; rule++) {
+            x.addRule(2, rule % 2 == 1, rule < 23 ? 9 : 0);
+            if (rule < 23) {
+                x.addCondition(rule, rule / 16, 0, rule % 16);
+            }
+        }
+        x.setWay(2, 2);
+        for (int rule = 0; rule < 16; rule++) {
+            x.setValue(0, rule);
+            Check.is("24: rule " + rule, x.applies(rule), 1);
+            Check.is("25: the next rule", x.failing((rule + 1) % 16), 0);
+            Check.is("26: rule " + rule, x.decide(), rule % 2);
+            Check.is("27: rule " + rule, x.decidingRule(), rule);
+            Check.is("28: rule " + rule, x.policyDecision(2), rule % 2);
+        }
+        Check.is("31: permit", x.valuesFor(0, 0), 0x5555);
+        Check.is("31: deny", x.valuesFor(0, 1), 0xAAAA);
+        Check.request(x, -1, -1, -1);
+        Check.is("29: both", x.possible(), 3);
+        Check.is("30: half of them", x.completions(0), 2048);
+        Check.is("30: the other half", x.completions(1), 2048);
+        x.specialize(0, 15);
+        Check.is("8: nine are left", x.ruleCount(), 9);
+        Check.request(x, -1, -1, -1);
+        Check.is("30: always the first", x.completions(1), 4096);
+        x.removeRule(0);
+        Check.is("30: by attribute 1", x.completions(0), 4 * 256);
+        Check.is("30: and all others", x.completions(1), 12 * 256);
+        Check.is("31: by attribute 1", x.valuesFor(1, 0), 0x55);
     }
 
     private static void decisionNumbers() {
