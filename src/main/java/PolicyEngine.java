@@ -1133,9 +1133,11 @@ public final class PolicyEngine {
     private static final class Tally {
         private final RuleTable table;
         final int[] counts = new int[DECISIONS];
-        private int usable;
         private int unknowns;
-        /** For each unknown attribute, the sets of rules that its values leave, and how many values leave each. */
+        /**
+         * For each unknown attribute, the sets of rules that its values leave, and how many values leave each. Where
+         * fewer are unknown, the places behind have one group that leaves all.
+         */
         private final int[] groups = new int[MAX_UNKNOWN];
         private final int[] sets = new int[MAX_UNKNOWN * VALUES];
         private final int[] sizes = new int[MAX_UNKNOWN * VALUES];
@@ -1145,11 +1147,7 @@ public final class PolicyEngine {
         }
 
         /** Values for more than three attributes may not be missing. */
-        void count(int[] values, int usablePolicies) {
-            usable = usablePolicies;
-            for (int decision = 0; decision < DECISIONS; decision++) {
-                counts[decision] = 0;
-            }
+        void count(int[] values, int usable) {
             int matching = table.matching(values) & table.rulesOf(usable);
             unknowns = 0;
             for (int attribute = 0; attribute < ATTRIBUTES; attribute++) {
@@ -1158,7 +1156,12 @@ public final class PolicyEngine {
                     unknowns++;
                 }
             }
-            spread(0, matching, 1);
+            for (int place = unknowns; place < MAX_UNKNOWN; place++) {
+                groups[place] = 1;
+                sets[place * VALUES] = matching;
+                sizes[place * VALUES] = 1;
+            }
+            spread(usable);
         }
 
         private void group(int attribute, int matching) {
@@ -1182,14 +1185,19 @@ public final class PolicyEngine {
             groups[unknowns]++;
         }
 
-        private void spread(int depth, int applying, int weight) {
-            if (depth >= unknowns) {
-                counts[table.decisionOf(applying, usable)] += weight;
-                return;
+        /** Counts each combination of groups as often as there are completions with it. */
+        private void spread(int usable) {
+            for (int decision = 0; decision < DECISIONS; decision++) {
+                counts[decision] = 0;
             }
-            int start = depth * VALUES;
-            for (int group = 0; group < groups[depth]; group++) {
-                spread(depth + 1, applying & sets[start + group], weight * sizes[start + group]);
+            for (int first = 0; first < groups[0]; first++) {
+                for (int second = VALUES; second < VALUES + groups[1]; second++) {
+                    int left = sets[first] & sets[second];
+                    int size = sizes[first] * sizes[second];
+                    for (int third = 2 * VALUES; third < 2 * VALUES + groups[2]; third++) {
+                        counts[table.decisionOf(left & sets[third], usable)] += size * sizes[third];
+                    }
+                }
             }
         }
     }

@@ -17,9 +17,14 @@ public final class FaceTest {
     private static final Pattern METHOD =
             Pattern.compile("^    public (int|boolean|double) (\\w+)\\(([^)]*)\\)(?: throws ([^;]*))?;$", Pattern.MULTILINE);
 
+    private static final Pattern BODY = Pattern.compile(
+            "^( {4}| {8})((?:public |private |static )*)(?!public )[\\w\\[\\]]+ (\\w+)\\([^)]*\\)[^;{]*\\{\n(.*?)^\\1\\}$",
+            Pattern.MULTILINE | Pattern.DOTALL);
+
     public static void main(String[] args) throws IOException {
         face();
         members();
+        source();
         apart();
         Check.end("FaceTest");
     }
@@ -94,6 +99,35 @@ public final class FaceTest {
                     isFace || !open.contains(method.getName()), true);
             Check.is("language: parameters of " + method, method.getParameterCount() <= 7, true);
         }
+    }
+
+    private static void source() throws IOException {
+        String program = Files.readString(Path.of("src/main/java/PolicyEngine.java"));
+        Check.is("language: signs 1 to 127", program.chars().allMatch(sign -> sign > 0 && sign < 128), true);
+        for (String word : List.of("->", "::", "instanceof", "Exact", "var ", "try {", "catch (", "finally", "assert ",
+                "synchronized", "getMessage", "hashCode", "toString", "static {")) {
+            Check.is("language: no " + word, program.contains(word), false);
+        }
+        Check.is("language: imports", program.split("(?m)^import ", -1).length - 1, 1);
+        Matcher body = BODY.matcher(program);
+        int methods = 0;
+        while (body.find()) {
+            methods++;
+            String name = body.group(3);
+            boolean callsItself = Pattern.compile("(?<![\\w.])" + name + "\\(").matcher(body.group(4)).find();
+            Check.is("language: only a private static method calls itself, " + name,
+                    callsItself && !body.group(2).equals("private static "), false);
+            Check.is("language: some sixty lines, " + name, body.group(4).lines().count() <= 60, true);
+        }
+        Check.is("language: methods that were looked at", methods, declaredMethods());
+    }
+
+    private static int declaredMethods() {
+        int number = PolicyEngine.class.getDeclaredMethods().length;
+        for (Class<?> inner : PolicyEngine.class.getDeclaredClasses()) {
+            number += inner.getDeclaredMethods().length;
+        }
+        return number;
     }
 
     /** Two objects hold nothing in common. */
