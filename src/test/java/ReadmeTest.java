@@ -9,7 +9,6 @@ import java.util.ArrayList;
 import java.util.List;
 import java.util.regex.Matcher;
 import java.util.regex.Pattern;
-import javax.tools.ToolProvider;
 
 /** The run of calls in README.md: each line answers what stands behind it. */
 public final class ReadmeTest {
@@ -20,14 +19,14 @@ public final class ReadmeTest {
     private final List<String> calls = new ArrayList<>();
     private final List<String> due = new ArrayList<>();
 
-    public static void main(String[] args) throws IOException, ReflectiveOperationException {
+    public static void main(String[] args) throws IOException, InterruptedException, ReflectiveOperationException {
         String readme = Files.readString(Path.of("README.md"));
         new ReadmeTest().run(readme);
         whatIsTold(readme);
         Check.end("ReadmeTest");
     }
 
-    private void run(String readme) throws IOException, ReflectiveOperationException {
+    private void run(String readme) throws IOException, InterruptedException, ReflectiveOperationException {
         Matcher block = BLOCK.matcher(readme);
         while (block.find()) {
             block.group(1).lines().forEach(this::translate);
@@ -58,13 +57,13 @@ public final class ReadmeTest {
         }
     }
 
-    private List<String> answers() throws IOException, ReflectiveOperationException {
+    private List<String> answers() throws IOException, InterruptedException, ReflectiveOperationException {
         Path directory = Files.createTempDirectory("readme");
         Path source = directory.resolve("ReadmeRun.java");
         Files.writeString(source, "public final class ReadmeRun {\n"
                 + "public static void run(java.util.List<String> answers) {\n" + program + "}\n}\n");
-        int exit = ToolProvider.getSystemJavaCompiler().run(null, null, null, "-d", directory.toString(),
-                "-cp", System.getProperty("java.class.path"), source.toString());
+        int exit = new ProcessBuilder("javac", "-d", directory.toString(),
+                "-cp", System.getProperty("java.class.path"), source.toString()).inheritIO().start().waitFor();
         Check.is("README: compiles", exit, 0);
         List<String> answers = new ArrayList<>();
         if (exit == 0) {
